@@ -279,6 +279,13 @@ public final class PromisesTest {
         bank.write(0, 5, 4, 5, 0);
         CHECKS.equal("smooth with ties", 3, bank.smooth(0));
         CHECKS.equal("of several the smallest number", "3>2:5 5>4:5 7>6:5", linesOn(bank, 0));
+        TallyWax edges = bankWith(5);
+        edges.write(0, 2, 1, 5, 3);
+        edges.write(0, 2, 0, 5, 3);
+        edges.write(0, 6, 7, 9, 3);
+        edges.write(0, 5, 7, 1, 3);
+        CHECKS.equal("smooth with ties of 0 and 7", 4, edges.smooth(0));
+        CHECKS.equal("0 ahead of 1", "2>7:10 6>0:5 6>1:4 5>1:1", linesOn(edges, 0));
         TallyWax other = bankWith(5);
         other.write(0, 1, 2, 3, 0);
         other.write(0, 4, 5, 9, 0);
@@ -625,6 +632,10 @@ public final class PromisesTest {
         bank.write(0, 3, 7, 1, 0);
         CHECKS.equal("owesAlong(7) in a round", 4, bank.owesAlong(7));
         CHECKS.equal("owesAlong(2) into a round", 5, bank.owesAlong(2));
+        bank.write(0, 4, 0, 1, 1);
+        bank.write(1, 0, 2, 1, 1);
+        CHECKS.equal("owesAlong(4) by 0", 7, bank.owesAlong(4));
+        CHECKS.equal("owesAlong(0) by 2", 6, bank.owesAlong(0));
         for (int person : new int[] {-1, 8, LEAST, GREATEST}) {
             refuses(INDEX, bank, "owesAlong(" + person + ")", () -> bank.owesAlong(person));
         }
@@ -801,7 +812,14 @@ public final class PromisesTest {
         bank.turn(3);
         bank.deny(0, 2);
         bank.carry(1);
-        long due = mixed(2357, 1, 2, 2, 2, 7, 14, 1, 1, 0, 0);
+        CHECKS.equal("digest()", digestDue(1, 0, 6), bank.digest());
+        bank.pass(1);
+        CHECKS.equal("digest() a year later", digestDue(2, 14, 5), bank.digest());
+    }
+
+    /** What digest() has to answer, by the year, by meltsIn(5), and by yearsUntilMelted(0). */
+    private static long digestDue(int year, int meltsInFive, int yearsLeft) {
+        long due = mixed(2357, year, 2, 2, 2, 7, 14, 1, 1, 0, meltsInFive);
         due = mixed(due, 1, -6, 1, 0, 0, 10, 0, 0, 0, 0, 0, 0);
         due = mixed(due, 1, 6, 1, 0, 4, 0, 0, 0, 0, 0, 0, 0);
         due = mixed(due, 1, 0, 0, 10, 0, 0, 0, 0, 0, 0, 0, 0);
@@ -809,12 +827,8 @@ public final class PromisesTest {
         for (int person = 4; person < 8; person++) {
             due = mixed(due, 1, 0, 0, 0, 0, 0, 0, 0, 0, 0, 0, 0);
         }
-        due = mixed(due, 0, 6, 1, 0, 1, 10, 1, 1, 0, 4, 0);
-        due = mixed(due, 1, -1, 0);
-        CHECKS.equal("digest()", due, bank.digest());
-        bank.pass(1);
-        CHECKS.equal("meltsIn(5)", 14, bank.meltsIn(5));
-        CHECKS.equal("meltsIn(4)", 0, bank.meltsIn(4));
+        due = mixed(due, 0, yearsLeft, 1, 0, 1, 10, 1, 1, 0, 4, 0);
+        return mixed(due, 1, -1, 0);
     }
 
     private static void questionsChangeNothing() {
