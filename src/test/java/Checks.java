@@ -34,6 +34,20 @@ final class Checks {
         judge(false, what + " throws nothing, due is " + want.getName());
     }
 
+    void allows(String what, Call call) {
+        try {
+            call.run();
+        } catch (RuntimeException e) {
+            judge(false, what + " throws " + e + ", due is no exception");
+            return;
+        }
+        judge(true, what);
+    }
+
+    int failures() {
+        return failed;
+    }
+
     private void judge(boolean good, String complaint) {
         if (good) {
             passed++;

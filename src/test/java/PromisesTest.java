@@ -54,31 +54,6 @@ public final class PromisesTest {
         CHECKS.close("PromisesTest");
     }
 
-    private static TallyWax bankWith(int... hardnesses) {
-        TallyWax bank = new TallyWax();
-        for (int hardness : hardnesses) {
-            bank.addTablet(hardness);
-        }
-        return bank;
-    }
-
-    /** The debtor, creditor and amount of each line, as in "0>1:10 2>3:4". */
-    private static String linesOn(TallyWax bank, int tablet) {
-        StringBuilder text = new StringBuilder();
-        for (int line = 0; line < bank.linesOf(tablet); line++) {
-            text.append(line == 0 ? "" : " ").append(bank.debtorOf(tablet, line));
-            text.append('>').append(bank.creditorOf(tablet, line));
-            text.append(':').append(bank.amountOf(tablet, line));
-        }
-        return text.toString();
-    }
-
-    private static void turnAll(TallyWax bank, int... persons) {
-        for (int person : persons) {
-            bank.turn(person);
-        }
-    }
-
     /** The call must throw that class, and leave everything as it was. */
     private static void refuses(Class<? extends RuntimeException> want, TallyWax bank, String what, Checks.Call call) {
         long before = bank.digest();
@@ -125,12 +100,12 @@ public final class PromisesTest {
     // ---- promise 3
 
     private static void write() {
-        TallyWax bank = bankWith(5, 5);
+        TallyWax bank = Banks.with(5, 5);
         CHECKS.equal("write, amount 1", 0, bank.write(0, 0, 7, 1, 3));
         CHECKS.equal("write, amount 999", 1, bank.write(0, 7, 0, 999, 1));
         CHECKS.equal("write on another tablet", 0, bank.write(1, 2, 3, 50, 4));
-        CHECKS.equal("lines after write", "0>7:1 7>0:999", linesOn(bank, 0));
-        CHECKS.equal("lines of the other tablet", "2>3:50", linesOn(bank, 1));
+        CHECKS.equal("lines after write", "0>7:1 7>0:999", Banks.linesOn(bank, 0));
+        CHECKS.equal("lines of the other tablet", "2>3:50", Banks.linesOn(bank, 1));
         for (int number = 2; number < 12; number++) {
             CHECKS.equal("write", number, bank.write(0, 0, 7, 1, 3));
         }
@@ -140,7 +115,7 @@ public final class PromisesTest {
     }
 
     private static void writeWrong() {
-        TallyWax bank = bankWith(5);
+        TallyWax bank = Banks.with(5);
         for (int tablet : new int[] {-1, 1, 8, LEAST, GREATEST}) {
             refuses(INDEX, bank, "write on tablet " + tablet, () -> bank.write(tablet, 0, 1, 1, 2));
         }
@@ -162,7 +137,7 @@ public final class PromisesTest {
     }
 
     private static void writeOrderOfExceptions() {
-        TallyWax bank = bankWith(5);
+        TallyWax bank = Banks.with(5);
         bank.turn(0);
         refuses(INDEX, bank, "write, no tablet and all else wrong", () -> bank.write(1, 0, 0, 0, 0));
         refuses(INDEX, bank, "write, no person and all else wrong", () -> bank.write(0, 8, 8, 0, 8));
@@ -179,19 +154,19 @@ public final class PromisesTest {
     // ---- promise 4
 
     private static void pay() {
-        TallyWax bank = bankWith(5);
+        TallyWax bank = Banks.with(5);
         bank.write(0, 0, 1, 10, 2);
         bank.write(0, 1, 2, 20, 3);
         bank.write(0, 2, 3, 30, 4);
         CHECKS.equal("pay some", 19, bank.pay(0, 1, 1));
-        CHECKS.equal("lines after pay", "0>1:10 1>2:19 2>3:30", linesOn(bank, 0));
+        CHECKS.equal("lines after pay", "0>1:10 1>2:19 2>3:30", Banks.linesOn(bank, 0));
         CHECKS.equal("pay all", 0, bank.pay(0, 1, 19));
-        CHECKS.equal("lines after one is paid whole", "0>1:10 2>3:30", linesOn(bank, 0));
+        CHECKS.equal("lines after one is paid whole", "0>1:10 2>3:30", Banks.linesOn(bank, 0));
         bank.turn(4);
         CHECKS.equal("isWitnessed of the line behind", false, bank.isWitnessed(0, 1));
         CHECKS.equal("pay the first whole", 0, bank.pay(0, 0, 10));
-        CHECKS.equal("lines after the first is paid whole", "2>3:30", linesOn(bank, 0));
-        turnAll(bank, 2, 3);
+        CHECKS.equal("lines after the first is paid whole", "2>3:30", Banks.linesOn(bank, 0));
+        Banks.turnAll(bank, 2, 3);
         CHECKS.equal("pay all but 1 with all gone", 1, bank.pay(0, 0, 29));
         CHECKS.equal("pay the last 1", 0, bank.pay(0, 0, 1));
         CHECKS.equal("lines after all is paid", 0, bank.lines());
@@ -200,7 +175,7 @@ public final class PromisesTest {
     }
 
     private static void payWrong() {
-        TallyWax bank = bankWith(5, 5);
+        TallyWax bank = Banks.with(5, 5);
         bank.write(0, 0, 1, 10, 2);
         for (int tablet : new int[] {-1, 2, 8, LEAST, GREATEST}) {
             refuses(INDEX, bank, "pay on tablet " + tablet, () -> bank.pay(tablet, 0, 1));
@@ -217,21 +192,21 @@ public final class PromisesTest {
     // ---- promise 5
 
     private static void deny() {
-        TallyWax bank = bankWith(5);
+        TallyWax bank = Banks.with(5);
         bank.write(0, 0, 1, 10, 5);
         bank.write(0, 1, 2, 20, 6);
         bank.write(0, 2, 3, 30, 5);
-        turnAll(bank, 5, 1);
+        Banks.turnAll(bank, 5, 1);
         CHECKS.equal("deny, the creditor is gone", 10, bank.deny(0, 0));
-        CHECKS.equal("lines after deny", "1>2:20 2>3:30", linesOn(bank, 0));
+        CHECKS.equal("lines after deny", "1>2:20 2>3:30", Banks.linesOn(bank, 0));
         CHECKS.equal("deny the last", 30, bank.deny(0, 1));
-        CHECKS.equal("lines after deny of the last", "1>2:20", linesOn(bank, 0));
+        CHECKS.equal("lines after deny of the last", "1>2:20", Banks.linesOn(bank, 0));
         CHECKS.equal("denied()", 40, bank.denied());
         CHECKS.equal("melted() after deny", 0, bank.melted());
     }
 
     private static void denyWrong() {
-        TallyWax bank = bankWith(5);
+        TallyWax bank = Banks.with(5);
         bank.write(0, 0, 1, 10, 5);
         for (int tablet : new int[] {-1, 1, 8, LEAST, GREATEST}) {
             refuses(INDEX, bank, "deny on tablet " + tablet, () -> bank.deny(tablet, 0));
@@ -240,7 +215,7 @@ public final class PromisesTest {
             refuses(INDEX, bank, "deny of line " + line, () -> bank.deny(0, line));
         }
         refuses(STATE, bank, "deny of a witnessed line", () -> bank.deny(0, 0));
-        turnAll(bank, 0, 5);
+        Banks.turnAll(bank, 0, 5);
         refuses(STATE, bank, "deny by one that is gone", () -> bank.deny(0, 0));
         bank.turn(5);
         refuses(STATE, bank, "deny of a line witnessed again, by one that is gone", () -> bank.deny(0, 0));
@@ -251,58 +226,58 @@ public final class PromisesTest {
     // ---- promise 6
 
     private static void smooth() {
-        TallyWax bank = bankWith(5, 5);
+        TallyWax bank = Banks.with(5, 5);
         bank.write(0, 0, 1, 10, 2);
         bank.write(0, 1, 2, 10, 3);
         bank.write(0, 2, 3, 4, 5);
         bank.write(1, 3, 2, 100, 0);
         CHECKS.equal("smooth(0)", 2, bank.smooth(0));
-        CHECKS.equal("lines after smooth", "0>2:6 0>3:4", linesOn(bank, 0));
-        CHECKS.equal("lines of the other tablet", "3>2:100", linesOn(bank, 1));
+        CHECKS.equal("lines after smooth", "0>2:6 0>3:4", Banks.linesOn(bank, 0));
+        CHECKS.equal("lines of the other tablet", "3>2:100", Banks.linesOn(bank, 1));
         for (int tablet : new int[] {-1, 2, 8, LEAST, GREATEST}) {
             refuses(INDEX, bank, "smooth(" + tablet + ")", () -> bank.smooth(tablet));
         }
-        TallyWax other = bankWith(5);
+        TallyWax other = Banks.with(5);
         for (int i = 0; i < 12; i++) {
             other.write(0, 3, 6, 999, 0);
         }
         CHECKS.equal("smooth a full tablet", 1, other.smooth(0));
-        CHECKS.equal("lines of a full tablet smoothed", "3>6:11988", linesOn(other, 0));
+        CHECKS.equal("lines of a full tablet smoothed", "3>6:11988", Banks.linesOn(other, 0));
         refuses(ARGUMENT, other, "pay more than a great amount", () -> other.pay(0, 0, 11989));
         CHECKS.equal("pay a great amount", 0, other.pay(0, 0, 11988));
     }
 
     private static void smoothTies() {
-        TallyWax bank = bankWith(5);
+        TallyWax bank = Banks.with(5);
         bank.write(0, 7, 6, 5, 0);
         bank.write(0, 3, 2, 5, 0);
         bank.write(0, 5, 4, 5, 0);
         CHECKS.equal("smooth with ties", 3, bank.smooth(0));
-        CHECKS.equal("of several the smallest number", "3>2:5 5>4:5 7>6:5", linesOn(bank, 0));
-        TallyWax edges = bankWith(5);
+        CHECKS.equal("of several the smallest number", "3>2:5 5>4:5 7>6:5", Banks.linesOn(bank, 0));
+        TallyWax edges = Banks.with(5);
         edges.write(0, 2, 1, 5, 3);
         edges.write(0, 2, 0, 5, 3);
         edges.write(0, 6, 7, 9, 3);
         edges.write(0, 5, 7, 1, 3);
         CHECKS.equal("smooth with ties of 0 and 7", 4, edges.smooth(0));
-        CHECKS.equal("0 ahead of 1", "2>7:10 6>0:5 6>1:4 5>1:1", linesOn(edges, 0));
-        TallyWax other = bankWith(5);
+        CHECKS.equal("0 ahead of 1", "2>7:10 6>0:5 6>1:4 5>1:1", Banks.linesOn(edges, 0));
+        TallyWax other = Banks.with(5);
         other.write(0, 1, 2, 3, 0);
         other.write(0, 4, 5, 9, 0);
         other.write(0, 4, 6, 2, 0);
         other.write(0, 7, 6, 8, 0);
         CHECKS.equal("smooth with several debtors", 4, other.smooth(0));
-        CHECKS.equal("the least and the most first", "4>6:10 7>5:8 1>2:3 4>5:1", linesOn(other, 0));
+        CHECKS.equal("the least and the most first", "4>6:10 7>5:8 1>2:3 4>5:1", Banks.linesOn(other, 0));
     }
 
     private static void smoothWitnesses() {
-        TallyWax bank = bankWith(5);
+        TallyWax bank = Banks.with(5);
         bank.write(0, 0, 1, 9, 7);
         bank.write(0, 4, 2, 5, 7);
         bank.write(0, 3, 5, 2, 7);
-        turnAll(bank, 1, 3, 7);
+        Banks.turnAll(bank, 1, 3, 7);
         CHECKS.equal("smooth with some gone", 3, bank.smooth(0));
-        CHECKS.equal("lines with some gone", "0>1:9 4>2:5 3>5:2", linesOn(bank, 0));
+        CHECKS.equal("lines with some gone", "0>1:9 4>2:5 3>5:2", Banks.linesOn(bank, 0));
         CHECKS.equal("atRisk(0): the witness of the later lines", 7, bank.atRisk(0));
         CHECKS.equal("atRisk(2): the witness of the first", 9, bank.atRisk(2));
         CHECKS.equal("atRisk(4): no witness", 0, bank.atRisk(4));
@@ -310,30 +285,30 @@ public final class PromisesTest {
     }
 
     private static void smoothRefused() {
-        TallyWax bank = bankWith(5);
+        TallyWax bank = Banks.with(5);
         bank.write(0, 0, 1, 9, 7);
         bank.write(0, 2, 3, 5, 7);
-        turnAll(bank, 1, 2, 3, 4, 5, 6, 7);
+        Banks.turnAll(bank, 1, 2, 3, 4, 5, 6, 7);
         refuses(STATE, bank, "smooth, the first line without a witness", () -> bank.smooth(0));
-        turnAll(bank, 2, 0);
+        Banks.turnAll(bank, 2, 0);
         refuses(STATE, bank, "smooth, the second line without a witness", () -> bank.smooth(0));
         bank.turn(2);
         refuses(STATE, bank, "smooth, nobody is there", () -> bank.smooth(0));
-        CHECKS.equal("the lines of a refused smoothing", "0>1:9 2>3:5", linesOn(bank, 0));
+        CHECKS.equal("the lines of a refused smoothing", "0>1:9 2>3:5", Banks.linesOn(bank, 0));
         bank.turn(7);
         CHECKS.equal("smooth, one is there", 2, bank.smooth(0));
-        TallyWax other = bankWith(5);
+        TallyWax other = Banks.with(5);
         other.write(0, 2, 6, 5, 7);
-        turnAll(other, 0, 1, 3, 4, 5, 7);
+        Banks.turnAll(other, 0, 1, 3, 4, 5, 7);
         refuses(STATE, other, "smooth, debtor and creditor alone are there", () -> other.smooth(0));
     }
 
     private static void smoothEmptyAndSettled() {
-        TallyWax bank = bankWith(5);
+        TallyWax bank = Banks.with(5);
         bank.write(0, 0, 1, 9, 7);
         bank.write(0, 1, 2, 9, 7);
         bank.write(0, 2, 0, 9, 7);
-        turnAll(bank, 0, 1, 2, 3, 4, 5, 6, 7);
+        Banks.turnAll(bank, 0, 1, 2, 3, 4, 5, 6, 7);
         CHECKS.equal("linesSmoothed of what is even, all gone", 0, bank.linesSmoothed(0));
         CHECKS.equal("smooth what is even, all gone", 0, bank.smooth(0));
         CHECKS.equal("smooth an empty tablet", 0, bank.smooth(0));
@@ -343,14 +318,14 @@ public final class PromisesTest {
     }
 
     private static void smoothToMoreLines() {
-        TallyWax bank = bankWith(5);
+        TallyWax bank = Banks.with(5);
         bank.write(0, 0, 1, 5, 7);
         bank.write(0, 0, 2, 5, 7);
         bank.write(0, 3, 4, 7, 7);
         CHECKS.equal("linesSmoothed to more lines", 4, bank.linesSmoothed(0));
         CHECKS.equal("bestToSmooth with nothing to win", -1, bank.bestToSmooth());
         CHECKS.equal("smooth to more lines", 4, bank.smooth(0));
-        CHECKS.equal("lines that are more", "0>4:7 3>1:5 0>2:3 3>2:2", linesOn(bank, 0));
+        CHECKS.equal("lines that are more", "0>4:7 3>1:5 0>2:3 3>2:2", Banks.linesOn(bank, 0));
     }
 
     // ---- promises 7 to 9
@@ -371,7 +346,7 @@ public final class PromisesTest {
     }
 
     private static void carry() {
-        TallyWax bank = bankWith(1, 1);
+        TallyWax bank = Banks.with(1, 1);
         CHECKS.equal("carry(1)", true, bank.carry(1));
         CHECKS.equal("isInCellar(1)", true, bank.isInCellar(1));
         CHECKS.equal("isInCellar(0)", false, bank.isInCellar(0));
@@ -383,7 +358,7 @@ public final class PromisesTest {
     }
 
     private static void setHeat() {
-        TallyWax bank = bankWith(1);
+        TallyWax bank = Banks.with(1);
         CHECKS.equal("setHeat(0, 9)", 0, bank.setHeat(0, 9));
         CHECKS.equal("setHeat(9, 3)", 0, bank.setHeat(9, 3));
         CHECKS.equal("setHeat(0, 0)", 9, bank.setHeat(0, 0));
@@ -401,7 +376,7 @@ public final class PromisesTest {
     // ---- promise 10
 
     private static void pass() {
-        TallyWax bank = bankWith(3, 4, 3, 5);
+        TallyWax bank = Banks.with(3, 4, 3, 5);
         for (int tablet = 0; tablet < 4; tablet++) {
             bank.write(tablet, 0, 1, 10, 2);
             bank.write(tablet, 1, 2, 20, 3);
@@ -416,7 +391,7 @@ public final class PromisesTest {
         CHECKS.equal("linesOf the one in the cellar", 2, bank.linesOf(2));
         CHECKS.equal("linesOf the harder one", 2, bank.linesOf(3));
         CHECKS.equal("write where it melted", 0, bank.write(0, 4, 5, 6, 7));
-        CHECKS.equal("lines where it melted", "4>5:6", linesOn(bank, 0));
+        CHECKS.equal("lines where it melted", "4>5:6", Banks.linesOn(bank, 0));
         bank.carry(2);
         CHECKS.equal("pass(9), the heat is not yet there again", 0, bank.pass(9));
         CHECKS.equal("pass(1), the heat comes again", 3, bank.pass(1));
@@ -424,7 +399,7 @@ public final class PromisesTest {
     }
 
     private static void passManyYears() {
-        TallyWax bank = bankWith(1, 2);
+        TallyWax bank = Banks.with(1, 2);
         bank.setHeat(9, 3);
         bank.write(0, 0, 1, 10, 2);
         bank.write(1, 0, 1, 10, 2);
@@ -437,7 +412,7 @@ public final class PromisesTest {
     }
 
     private static void passWrong() {
-        TallyWax bank = bankWith(1);
+        TallyWax bank = Banks.with(1);
         bank.write(0, 0, 1, 10, 2);
         bank.setHeat(0, 9);
         for (int years : new int[] {0, -1, 41, LEAST, GREATEST}) {
@@ -466,7 +441,7 @@ public final class PromisesTest {
     }
 
     private static void melted() {
-        TallyWax bank = bankWith(1, 8);
+        TallyWax bank = Banks.with(1, 8);
         bank.setHeat(0, 2);
         bank.setHeat(2, 9);
         bank.write(0, 0, 1, 10, 2);
@@ -480,7 +455,7 @@ public final class PromisesTest {
     }
 
     private static void denied() {
-        TallyWax bank = bankWith(1);
+        TallyWax bank = Banks.with(1);
         bank.write(0, 0, 1, 10, 2);
         bank.write(0, 0, 1, 25, 2);
         bank.turn(2);
@@ -494,7 +469,7 @@ public final class PromisesTest {
     // ---- promises 17 to 22
 
     private static void questionsOfTablets() {
-        TallyWax bank = bankWith(1, 1);
+        TallyWax bank = Banks.with(1, 1);
         for (int tablet : new int[] {-1, 2, 8, LEAST, GREATEST}) {
             refuses(INDEX, bank, "linesOf(" + tablet + ")", () -> bank.linesOf(tablet));
             refuses(INDEX, bank, "isInCellar(" + tablet + ")", () -> bank.isInCellar(tablet));
@@ -517,7 +492,7 @@ public final class PromisesTest {
     }
 
     private static void questionsOfLines() {
-        TallyWax bank = bankWith(1, 1);
+        TallyWax bank = Banks.with(1, 1);
         bank.write(1, 3, 4, 50, 5);
         bank.write(1, 6, 7, 60, 0);
         CHECKS.equal("debtorOf(1, 0)", 3, bank.debtorOf(1, 0));
@@ -539,11 +514,11 @@ public final class PromisesTest {
     }
 
     private static void isWitnessed() {
-        TallyWax bank = bankWith(1);
+        TallyWax bank = Banks.with(1);
         bank.write(0, 0, 1, 10, 2);
         bank.write(0, 2, 1, 10, 7);
         CHECKS.equal("isWitnessed(0, 0)", true, bank.isWitnessed(0, 0));
-        turnAll(bank, 0, 1);
+        Banks.turnAll(bank, 0, 1);
         CHECKS.equal("isWitnessed(0, 0), both sides gone", true, bank.isWitnessed(0, 0));
         bank.turn(2);
         CHECKS.equal("isWitnessed(0, 0), the witness gone", false, bank.isWitnessed(0, 0));
@@ -555,7 +530,7 @@ public final class PromisesTest {
     // ---- promises 23 to 29
 
     private static void has() {
-        TallyWax bank = bankWith(1, 1);
+        TallyWax bank = Banks.with(1, 1);
         bank.write(0, 0, 1, 10, 2);
         bank.write(0, 1, 2, 3, 4);
         bank.write(1, 1, 0, 25, 2);
@@ -575,7 +550,7 @@ public final class PromisesTest {
     }
 
     private static void owes() {
-        TallyWax bank = bankWith(1, 1);
+        TallyWax bank = Banks.with(1, 1);
         bank.write(0, 0, 1, 10, 2);
         bank.write(0, 0, 1, 5, 3);
         bank.write(1, 0, 1, 100, 2);
@@ -591,7 +566,7 @@ public final class PromisesTest {
     }
 
     private static void total() {
-        TallyWax bank = bankWith(1, 1);
+        TallyWax bank = Banks.with(1, 1);
         CHECKS.equal("total() without lines", 0, bank.total());
         bank.write(0, 0, 1, 999, 2);
         bank.write(1, 1, 0, 500, 2);
@@ -601,7 +576,7 @@ public final class PromisesTest {
     }
 
     private static void richest() {
-        TallyWax bank = bankWith(1, 1);
+        TallyWax bank = Banks.with(1, 1);
         CHECKS.equal("richest() of nobody", 0, bank.richest());
         bank.write(0, 0, 5, 10, 2);
         CHECKS.equal("richest()", 5, bank.richest());
@@ -616,7 +591,7 @@ public final class PromisesTest {
     }
 
     private static void owesAlong() {
-        TallyWax bank = bankWith(1, 1);
+        TallyWax bank = Banks.with(1, 1);
         CHECKS.equal("owesAlong(0) without lines", 0, bank.owesAlong(0));
         bank.write(0, 7, 5, 1, 0);
         bank.write(1, 5, 6, 1, 0);
@@ -642,7 +617,7 @@ public final class PromisesTest {
     }
 
     private static void isRound() {
-        TallyWax bank = bankWith(1, 1);
+        TallyWax bank = Banks.with(1, 1);
         CHECKS.equal("isRound() without lines", false, bank.isRound());
         bank.write(0, 4, 5, 1, 0);
         bank.write(1, 5, 6, 1, 0);
@@ -660,24 +635,24 @@ public final class PromisesTest {
     // ---- promises 30 to 32
 
     private static void linesSmoothed() {
-        TallyWax bank = bankWith(1, 1);
+        TallyWax bank = Banks.with(1, 1);
         CHECKS.equal("linesSmoothed of an empty tablet", 0, bank.linesSmoothed(0));
         bank.write(0, 0, 1, 10, 2);
         bank.write(0, 0, 1, 10, 2);
         bank.write(0, 1, 2, 5, 3);
         CHECKS.equal("linesSmoothed(0)", 2, bank.linesSmoothed(0));
         CHECKS.equal("linesSmoothed(1)", 0, bank.linesSmoothed(1));
-        turnAll(bank, 2, 3, 4, 5, 6, 7);
+        Banks.turnAll(bank, 2, 3, 4, 5, 6, 7);
         CHECKS.equal("linesSmoothed(0), no witness for one", -1, bank.linesSmoothed(0));
         bank.turn(2);
         CHECKS.equal("linesSmoothed(0), a witness for each", 2, bank.linesSmoothed(0));
         bank.turn(1);
         CHECKS.equal("linesSmoothed(0), none for 0 and 2", -1, bank.linesSmoothed(0));
-        CHECKS.equal("lines after linesSmoothed", "0>1:10 0>1:10 1>2:5", linesOn(bank, 0));
+        CHECKS.equal("lines after linesSmoothed", "0>1:10 0>1:10 1>2:5", Banks.linesOn(bank, 0));
     }
 
     private static void bestToSmooth() {
-        TallyWax bank = bankWith(1, 1, 1, 1);
+        TallyWax bank = Banks.with(1, 1, 1, 1);
         CHECKS.equal("bestToSmooth() without lines", -1, bank.bestToSmooth());
         bank.write(0, 0, 1, 10, 2);
         CHECKS.equal("bestToSmooth() with nothing to win", -1, bank.bestToSmooth());
@@ -689,9 +664,9 @@ public final class PromisesTest {
         CHECKS.equal("bestToSmooth() of several", 2, bank.bestToSmooth());
         bank.write(3, 4, 3, 10, 2);
         CHECKS.equal("bestToSmooth() with 2 to win", 3, bank.bestToSmooth());
-        turnAll(bank, 1, 2, 4, 5, 6, 7, 3);
+        Banks.turnAll(bank, 1, 2, 4, 5, 6, 7, 3);
         CHECKS.equal("bestToSmooth(), by 0 alone", 3, bank.bestToSmooth());
-        turnAll(bank, 0, 3);
+        Banks.turnAll(bank, 0, 3);
         CHECKS.equal("bestToSmooth(), by 3 alone", 2, bank.bestToSmooth());
         bank.turn(3);
         CHECKS.equal("bestToSmooth(), by nobody", -1, bank.bestToSmooth());
@@ -700,7 +675,7 @@ public final class PromisesTest {
     }
 
     private static void bestToSmoothOfFullTablet() {
-        TallyWax bank = bankWith(1, 1, 1, 1, 1, 1, 1, 1);
+        TallyWax bank = Banks.with(1, 1, 1, 1, 1, 1, 1, 1);
         for (int i = 0; i < 6; i++) {
             bank.write(7, 0, 1, 10, 2);
             bank.write(7, 1, 0, 10, 2);
@@ -711,7 +686,7 @@ public final class PromisesTest {
     }
 
     private static void atRisk() {
-        TallyWax bank = bankWith(1, 1);
+        TallyWax bank = Banks.with(1, 1);
         bank.write(0, 0, 1, 10, 2);
         bank.write(0, 2, 1, 20, 3);
         bank.write(1, 0, 1, 40, 2);
@@ -731,7 +706,7 @@ public final class PromisesTest {
     // ---- promises 33 to 36
 
     private static void yearsUntilMelted() {
-        TallyWax bank = bankWith(4, 5, 9);
+        TallyWax bank = Banks.with(4, 5, 9);
         CHECKS.equal("yearsUntilMelted(0) without heat", -1, bank.yearsUntilMelted(0));
         bank.setHeat(0, 5);
         bank.setHeat(9, 9);
@@ -750,7 +725,7 @@ public final class PromisesTest {
     }
 
     private static void meltsIn() {
-        TallyWax bank = bankWith(1, 2, 3, 1);
+        TallyWax bank = Banks.with(1, 2, 3, 1);
         for (int tablet = 0; tablet < 4; tablet++) {
             bank.write(tablet, 0, 1, 1 << tablet, 2);
             bank.write(tablet, 0, 1, 1 << tablet + 4, 2);
@@ -773,7 +748,7 @@ public final class PromisesTest {
     }
 
     private static void meanAmount() {
-        TallyWax bank = bankWith(1, 1);
+        TallyWax bank = Banks.with(1, 1);
         CHECKS.equal("meanAmount() without lines", 0.0, bank.meanAmount());
         bank.write(0, 0, 1, 10, 2);
         CHECKS.equal("meanAmount() of one", 10.0, bank.meanAmount());
@@ -800,7 +775,7 @@ public final class PromisesTest {
     }
 
     private static void digest() {
-        TallyWax bank = bankWith(3, 1);
+        TallyWax bank = Banks.with(3, 1);
         bank.setHeat(0, 2);
         bank.setHeat(6, 4);
         bank.write(1, 0, 1, 1, 2);
@@ -832,7 +807,7 @@ public final class PromisesTest {
     }
 
     private static void questionsChangeNothing() {
-        TallyWax bank = bankWith(3, 1);
+        TallyWax bank = Banks.with(3, 1);
         bank.write(0, 0, 1, 10, 2);
         bank.write(0, 1, 0, 4, 3);
         bank.setHeat(3, 9);
@@ -846,7 +821,7 @@ public final class PromisesTest {
         bank.owesAlong(0);
         bank.isRound();
         CHECKS.equal("digest() after questions", before, bank.digest());
-        CHECKS.equal("lines after questions", "0>1:10 1>0:4", linesOn(bank, 0));
+        CHECKS.equal("lines after questions", "0>1:10 1>0:4", Banks.linesOn(bank, 0));
         CHECKS.equal("year() after questions", 0, bank.year());
     }
 }
