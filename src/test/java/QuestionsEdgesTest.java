@@ -275,6 +275,11 @@ public final class QuestionsEdgesTest {
             CHECKS.equal("richest(), 7 has 1", 7, bank.richest());
             bank.write(1, 7, 0, 2, 2);
             CHECKS.equal("richest(), 0 has 1", 0, bank.richest());
+            for (int person = 0; person < 8; person++) {
+                TallyWax alone = Banks.with(5);
+                alone.write(0, (person + 1) % 8, person, 1, (person + 2) % 8);
+                CHECKS.equal("richest() of one that has 1", person, alone.richest());
+            }
         });
         EDGES.holds(27, "of several the smallest number", () -> {
             CHECKS.equal("richest() where all have 0", 0, new TallyWax().richest());
@@ -323,6 +328,11 @@ public final class QuestionsEdgesTest {
             for (int person = 0; person < 8; person++) {
                 CHECKS.equal("owesAlong(" + person + ") in a round of all", 7, round.owesAlong(person));
             }
+            TallyWax fan = Banks.with(5);
+            for (int creditor = 1; creditor < 8; creditor++) {
+                fan.write(0, 0, creditor, 1, creditor % 7 + 1);
+            }
+            CHECKS.equal("owesAlong(0), who owes each of the others", 7, fan.owesAlong(0));
             CHECKS.equal("owesAlong(0) along 96 lines", 1, full().owesAlong(0));
             CHECKS.equal("owesAlong(1) against 96 lines", 0, full().owesAlong(1));
         });
