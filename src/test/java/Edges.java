@@ -1,10 +1,5 @@
-import java.io.IOException;
-import java.nio.file.Files;
-import java.nio.file.Path;
 import java.util.ArrayList;
 import java.util.List;
-import java.util.Map;
-import java.util.TreeMap;
 
 /** Ties each test of a boundary case to the sentence of the document that names the case. */
 final class Edges {
@@ -24,35 +19,12 @@ final class Edges {
         void on(TallyWax bank, int number);
     }
 
-    private static final Path DOCUMENT = Path.of("..", "shared", "DOC.md");
-
     final Checks checks = new Checks();
-    private final Map<String, List<String>> document = readDocument();
+    private final Page document = Page.ofDocument();
     /** Lines of the document that have a test; a line is known by its section too. */
     private final List<String> tested = new ArrayList<>();
 
     // ---- sentences
-
-    private static Map<String, List<String>> readDocument() {
-        Map<String, List<String>> sections = new TreeMap<>();
-        String section = "";
-        for (String line : linesOfDocument()) {
-            if (line.startsWith("## ")) {
-                // "## Promise 3: write" is the section "Promise 3"
-                section = line.substring(3).split(":")[0];
-            }
-            sections.computeIfAbsent(section, any -> new ArrayList<>()).add(line);
-        }
-        return sections;
-    }
-
-    private static List<String> linesOfDocument() {
-        try {
-            return Files.readAllLines(DOCUMENT);
-        } catch (IOException e) {
-            throw new IllegalStateException("the document cannot be read: " + e);
-        }
-    }
 
     /** The test must hold, and the document must say the sentence in that section. */
     void holds(String section, String sentence, Runnable test) {
@@ -74,7 +46,7 @@ final class Edges {
 
     private void noteAsTested(String section, String sentence) {
         boolean said = false;
-        for (String line : document.getOrDefault(section, List.of())) {
+        for (String line : document.section(section)) {
             if (line.contains(sentence)) {
                 said = true;
                 tested.add(section + line);
@@ -87,7 +59,7 @@ final class Edges {
     void close(String name, int firstPromise, int lastPromise) {
         for (int promise = firstPromise; promise <= lastPromise; promise++) {
             String section = nameOf(promise);
-            for (String line : document.getOrDefault(section, List.of())) {
+            for (String line : document.section(section)) {
                 if (line.startsWith("Returns") || line.startsWith("Throws")) {
                     checks.equal("that a test stands for " + section + ": " + line,
                             true, tested.contains(section + line));

@@ -4,46 +4,14 @@ import java.lang.reflect.Modifier;
 import java.util.ArrayList;
 import java.util.Collections;
 import java.util.List;
+import java.util.regex.Matcher;
+import java.util.regex.Pattern;
 
 /** The public face is the document's, and nothing else of the class can be seen from outside. */
 public final class FaceTest {
-    private static final String[] METHODS = {
-        "addTablet(int):int IllegalArgumentException IllegalStateException",
-        "write(int,int,int,int,int):int IndexOutOfBoundsException IllegalArgumentException IllegalStateException",
-        "pay(int,int,int):int IndexOutOfBoundsException IllegalArgumentException",
-        "deny(int,int):int IndexOutOfBoundsException IllegalStateException",
-        "smooth(int):int IndexOutOfBoundsException IllegalStateException",
-        "turn(int):boolean IndexOutOfBoundsException",
-        "carry(int):boolean IndexOutOfBoundsException",
-        "setHeat(int,int):int IndexOutOfBoundsException IllegalArgumentException",
-        "pass(int):int IllegalArgumentException",
-        "year():int",
-        "tablets():int",
-        "lines():int",
-        "melted():int",
-        "denied():int",
-        "isThere(int):boolean IndexOutOfBoundsException",
-        "linesOf(int):int IndexOutOfBoundsException",
-        "isInCellar(int):boolean IndexOutOfBoundsException",
-        "debtorOf(int,int):int IndexOutOfBoundsException",
-        "creditorOf(int,int):int IndexOutOfBoundsException",
-        "amountOf(int,int):int IndexOutOfBoundsException",
-        "isWitnessed(int,int):boolean IndexOutOfBoundsException",
-        "has(int):int IndexOutOfBoundsException",
-        "hasOn(int,int):int IndexOutOfBoundsException",
-        "owes(int,int):int IndexOutOfBoundsException",
-        "total():int",
-        "richest():int",
-        "owesAlong(int):int IndexOutOfBoundsException",
-        "isRound():boolean",
-        "linesSmoothed(int):int IndexOutOfBoundsException",
-        "bestToSmooth():int",
-        "atRisk(int):int IndexOutOfBoundsException",
-        "yearsUntilMelted(int):int IndexOutOfBoundsException",
-        "meltsIn(int):int IllegalArgumentException",
-        "meanAmount():double",
-        "digest():long",
-    };
+    /** As in "    public int pay(int tablet, int line, int amount) throws A, B;". */
+    private static final Pattern METHOD = Pattern.compile(" *public (\\w+) (\\w+)\\((.*?)\\)(?: throws (.*))?;");
+    private static final int METHOD_COUNT = 35;
 
     private static final Checks CHECKS = new Checks();
 
@@ -69,7 +37,7 @@ public final class FaceTest {
     }
 
     private static void methodsAreTheDocuments() {
-        List<String> want = new ArrayList<>(List.of(METHODS));
+        List<String> want = methodsOfTheDocument();
         List<String> got = new ArrayList<>();
         for (Method method : TallyWax.class.getDeclaredMethods()) {
             if (!Modifier.isPrivate(method.getModifiers())) {
@@ -81,6 +49,29 @@ public final class FaceTest {
         Collections.sort(want);
         Collections.sort(got);
         CHECKS.equal("the public methods", String.join("\n", want), String.join("\n", got));
+    }
+
+    private static List<String> methodsOfTheDocument() {
+        List<String> methods = new ArrayList<>();
+        for (String line : Page.ofDocument().section("The public face")) {
+            Matcher method = METHOD.matcher(line);
+            if (method.matches()) {
+                methods.add(signature(method));
+            }
+        }
+        CHECKS.equal("methods of the document's face", METHOD_COUNT, methods.size());
+        return methods;
+    }
+
+    private static String signature(Matcher method) {
+        StringBuilder text = new StringBuilder(method.group(2));
+        // the names of the parameters are free
+        text.append('(').append(method.group(3).replaceAll(" \\w+(, |$)", "$1").replace(", ", ",")).append("):");
+        text.append(method.group(1));
+        if (method.group(4) != null) {
+            text.append(' ').append(method.group(4).replace(", ", " "));
+        }
+        return text.toString();
     }
 
     private static String signature(Method method) {
